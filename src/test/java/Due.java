@@ -1,0 +1,41 @@
+/** Counts and prints the answers that are not as due. */
+final class Due {
+    private final String test;
+    private int wrong;
+    private int asked;
+
+    Due(String test) {
+        this.test = test;
+    }
+
+    void is(String call, long got, long want) {
+        asked++;
+        if (got != want) {
+            wrong++;
+            System.out.println(test + ": " + call + " answered " + got + ", due is " + want);
+        }
+    }
+
+    void is(String call, boolean got, boolean want) {
+        is(call, got ? 1L : 0L, want ? 1L : 0L);
+    }
+
+    void is(String call, String got, String want) {
+        asked++;
+        if (!got.equals(want)) {
+            wrong++;
+            System.out.println(test + ": " + call + "\n  answered " + got + "\n  due is   " + want);
+        }
+    }
+
+    int wrongCount() {
+        return wrong;
+    }
+
+    void end() {
+        System.out.println(test + ": " + asked + " answers, " + wrong + " not as due");
+        if (wrong != 0) {
+            System.exit(1);
+        }
+    }
+}
