@@ -101,6 +101,7 @@ public final class FrameBackEnd {
     private static final int FORM_CODE = 7;
 
     private static final int NEAR_END = 16;
+    private static final int BRANCH_SIZE = 2;
     private static final int JUMP_SIZE = 3;
     private static final int TRAP_SIZE = 1;
 
@@ -235,6 +236,7 @@ public final class FrameBackEnd {
         processor.drop();
     }
 
+    /** The first of the answers 1 to 5 of compile() that holds; 0 if none does. */
     private int faultOfProgram() {
         if (!program.isWhole()) {
             return 1;
@@ -263,6 +265,7 @@ public final class FrameBackEnd {
         private final int[] variableCounts = new int[MOST_FUNCTIONS];
         private final int[] firsts = new int[MOST_FUNCTIONS];
         private final int[] counts = new int[MOST_FUNCTIONS];
+        private final int[] owners = new int[MOST_INSTRUCTIONS];
         private final int[] ops = new int[MOST_INSTRUCTIONS];
         private final int[] as = new int[MOST_INSTRUCTIONS];
         private final int[] bs = new int[MOST_INSTRUCTIONS];
@@ -301,6 +304,7 @@ public final class FrameBackEnd {
             if (!suits(SORTS[3 * op], a) || !suits(SORTS[3 * op + 1], b) || !suits(SORTS[3 * op + 2], c)) {
                 return NONE;
             }
+            owners[total] = f;
             ops[total] = op;
             as[total] = a;
             bs[total] = b;
@@ -363,6 +367,11 @@ public final class FrameBackEnd {
             return ops[k] == OP_ZERO ? bs[k] : cs[k];
         }
 
+        /** Where the target stands in the row of all instructions. */
+        int goalOf(int k) {
+            return firsts[owners[k]] + targetOf(k);
+        }
+
         boolean isWhole() {
             for (int f = 0; f < functionCount; f++) {
                 if (counts[f] == 0) {
@@ -377,12 +386,9 @@ public final class FrameBackEnd {
         }
 
         boolean hasAllTargets() {
-            for (int f = 0; f < functionCount; f++) {
-                for (int i = 0; i < counts[f]; i++) {
-                    int k = firsts[f] + i;
-                    if (hasTarget(k) && !hasInstruction(f, targetOf(k))) {
-                        return false;
-                    }
+            for (int k = 0; k < total; k++) {
+                if (hasTarget(k) && !hasInstruction(owners[k], targetOf(k))) {
+                    return false;
                 }
             }
             return true;
@@ -415,12 +421,9 @@ public final class FrameBackEnd {
             for (int pair = 0; pair < calls.length; pair++) {
                 calls[pair] = false;
             }
-            for (int f = 0; f < program.functionCount; f++) {
-                for (int i = 0; i < program.counts[f]; i++) {
-                    int k = program.firsts[f] + i;
-                    if (program.ops[k] == OP_CALL) {
-                        calls[MOST_FUNCTIONS * f + program.as[k]] = true;
-                    }
+            for (int k = 0; k < program.total; k++) {
+                if (program.ops[k] == OP_CALL) {
+                    calls[MOST_FUNCTIONS * program.owners[k] + program.as[k]] = true;
                 }
             }
         }
@@ -436,7 +439,9 @@ public final class FrameBackEnd {
         }
 
         private void closeCalls() {
-            System.arraycopy(calls, 0, reaches, 0, calls.length);
+            for (int pair = 0; pair < calls.length; pair++) {
+                reaches[pair] = calls[pair];
+            }
             for (int between = 0; between < MOST_FUNCTIONS; between++) {
                 for (int f = 0; f < MOST_FUNCTIONS; f++) {
                     for (int g = 0; g < MOST_FUNCTIONS; g++) {
@@ -536,62 +541,50 @@ public final class FrameBackEnd {
                 isTarget[k] = false;
                 isLong[k] = false;
             }
-            for (int f = 0; f < program.functionCount; f++) {
-                for (int i = 0; i < program.counts[f]; i++) {
-                    int k = program.firsts[f] + i;
-                    if (program.hasTarget(k)) {
-                        isTarget[program.firsts[f] + program.targetOf(k)] = true;
-                    }
+            for (int k = 0; k < program.total; k++) {
+                if (program.hasTarget(k)) {
+                    isTarget[program.goalOf(k)] = true;
                 }
             }
         }
 
         private boolean lengthenBranches() {
             int before = longCount;
-            for (int f = 0; f < program.functionCount; f++) {
-                for (int i = 0; i < program.counts[f]; i++) {
-                    int k = program.firsts[f] + i;
-                    boolean branches = program.ops[k] == OP_ZERO || program.ops[k] == OP_BELOW;
-                    if (branches && !isLong[k] && !reaches(f, k)) {
-                        isLong[k] = true;
-                        longCount++;
-                    }
+            for (int k = 0; k < program.total; k++) {
+                boolean branches = program.ops[k] == OP_ZERO || program.ops[k] == OP_BELOW;
+                if (branches && !isLong[k] && !reachesGoal(k)) {
+                    isLong[k] = true;
+                    longCount++;
                 }
             }
             return longCount > before;
         }
 
-        private boolean reaches(int f, int k) {
-            int behind = branchAddresses[k] + 2;
-            int distance = addresses[program.firsts[f] + program.targetOf(k)] - behind;
+        private boolean reachesGoal(int k) {
+            int behind = branchAddresses[k] + BRANCH_SIZE;
+            int distance = addresses[program.goalOf(k)] - behind;
             return distance >= -128 && distance <= 127;
         }
 
         private void markLabels() {
             Arrays.fill(labels, NONE);
-            for (int f = 0; f < program.functionCount; f++) {
-                for (int i = 0; i < program.counts[f]; i++) {
-                    int at = addresses[program.firsts[f] + i];
-                    if (at < MOST_CODE) {
-                        labels[at] = MOST_IN_FUNCTION * f + i;
-                    }
+            for (int k = 0; k < program.total; k++) {
+                int f = program.owners[k];
+                if (addresses[k] < MOST_CODE) {
+                    labels[addresses[k]] = MOST_IN_FUNCTION * f + k - program.firsts[f];
                 }
             }
         }
 
         private void emitProgram() {
             size = 0;
-            for (int f = 0; f < program.functionCount; f++) {
-                current = f;
-                held = NOTHING;
-                for (int i = 0; i < program.counts[f]; i++) {
-                    int k = program.firsts[f] + i;
-                    if (isTarget[k]) {
-                        held = NOTHING;
-                    }
-                    addresses[k] = size;
-                    emitInstruction(k, program.as[k], program.bs[k], program.cs[k]);
+            for (int k = 0; k < program.total; k++) {
+                current = program.owners[k];
+                if (k == program.firsts[current] || isTarget[k]) {
+                    held = NOTHING;
                 }
+                addresses[k] = size;
+                emitInstruction(k, program.as[k], program.bs[k], program.cs[k]);
             }
         }
 
@@ -632,7 +625,7 @@ public final class FrameBackEnd {
                     emitStore(a, c);
                     break;
                 case OP_GOTO:
-                    emitJump(JMP, addresses[program.firsts[current] + a]);
+                    emitJump(JMP, addresses[program.goalOf(k)]);
                     break;
                 case OP_ZERO:
                     emitZero(a);
@@ -817,7 +810,7 @@ public final class FrameBackEnd {
         }
 
         private void emitBranch(int number, int k) {
-            int goal = addresses[program.firsts[current] + program.targetOf(k)];
+            int goal = addresses[program.goalOf(k)];
             branchAddresses[k] = size;
             if (isLong[k]) {
                 put(8 * opposite(number) + FORM_BRANCH);
@@ -825,7 +818,7 @@ public final class FrameBackEnd {
                 emitJump(JMP, goal);
             } else {
                 put(8 * number + FORM_BRANCH);
-                put((goal - (size + 1)) & 255);
+                put((goal - (branchAddresses[k] + BRANCH_SIZE)) & 255);
             }
         }
 

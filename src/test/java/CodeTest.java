@@ -14,6 +14,7 @@ public final class CodeTest {
         callsByParameter();
         returnsAndOutput();
         farAddresses();
+        arrayAtNothing();
         heldIsLost();
         heldIsKept();
         DUE.end();
@@ -174,10 +175,16 @@ public final class CodeTest {
                 "LDX 14", "CPX #3", "BCC +1", "TRAP", "LDA 17,X", "STA 14",
                 "LDX 14", "CPX #6", "BCC +1", "TRAP", "STA 8,X",
                 "LDX 14", "CPX #3", "BCC +1", "TRAP", "STA 17,X", "JMP 0");
-        same("arrays at 15 and 16", Programs.compiled("FUNCTION 8 6 1 3", "STORE 3 2 2", "GOTO 0"),
+        same("an array at 15", Programs.compiled("FUNCTION 8 6 1 3", "STORE 3 2 2", "GOTO 0"),
                 "LDX 14", "CPX #3", "BCC +1", "TRAP", "LDA 14", "STA 15,X", "JMP 0");
         same("an array at 16", Programs.compiled("FUNCTION 8 6 1 1 3", "LOAD 3 4 2", "GOTO 0"),
                 "LDX 14", "CPX #3", "BCC +1", "TRAP", "LDA 16,X", "STA 15", "JMP 0");
+    }
+
+    private static void arrayAtNothing() {
+        same("an array at 0", Programs.compiled("FUNCTION 3 1", "STORE 0 1 1", "OUT 1", "LOAD 1 0 1", "GOTO 0"),
+                "LDX 3", "CPX #3", "BCC +1", "TRAP", "LDA 3", "STA 0,X", "OUT",
+                "LDX 3", "CPX #3", "BCC +1", "TRAP", "LDA 0,X", "STA 3", "JMP 0");
     }
 
     private static void heldIsLost() {
@@ -192,11 +199,13 @@ public final class CodeTest {
         body("behind SBC", lines("BELOW 2 0 0", "OUT 2", "GOTO 0"),
                 "LDA 2", "CMP 0", "LDA 3", "SBC #0", "BCC -10", "LDA 2", "OUT", "LDA 3", "OUT", "JMP 0");
         same("at the beginning of a function", Programs.compiled("FUNCTION 1", "SET 0 1", "OUT 0", "GOTO 0",
-                "FUNCTION 1", "OUT 0", "GOTO 0"),
-                "LDA #1", "STA 0", "OUT", "JMP 0", "LDA 0", "OUT", "JMP 8");
+                "FUNCTION 1", "OUT 0", "RETURN 0"),
+                "LDA #1", "STA 0", "OUT", "JMP 0", "LDA 0", "OUT", "STA 126", "LDA #0", "STA 127", "RTS");
+        body("at the target of the first instruction", lines("ZERO 1 2", "SET 0 1", "OUT 0", "GOTO 0"),
+                "LDA 1", "BEQ +4", "LDA #1", "STA 0", "LDA 0", "OUT", "JMP 0");
         same("behind JSR", Programs.compiled("FUNCTION 1 1", "CALL 1 0 1", "OUT 0", "GOTO 0", "FUNCTION", "GOTO 0"),
                 "JSR 14", "LDA 126", "STA 1", "LDA 0", "OUT", "JMP 0", "JMP 14");
-        body("an ZERO of a BYTE loads it again", lines("SET 0 1", "ZERO 0 0", "OUT 0", "GOTO 0"),
+        body("a ZERO of a BYTE loads it again", lines("SET 0 1", "ZERO 0 0", "OUT 0", "GOTO 0"),
                 "LDA #1", "STA 0", "LDA 0", "BEQ -8", "OUT", "JMP 0");
     }
 

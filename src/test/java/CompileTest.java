@@ -109,17 +109,28 @@ public final class CompileTest {
         DUE.is("code(0)", y.code(0), -1);
         DUE.is("longs()", y.longs(), 0);
         DUE.is("start()", y.start(), false);
+        instructionBehindTheLimit();
         longest();
     }
 
+    /** The OUT begins at 500, where no code can be. */
+    private static void instructionBehindTheLimit() {
+        answer(6, Programs.join(half(), half(),
+                Programs.lines("FUNCTION 2 1", "ADD 0 0 0", "ADD 0 0 0", "DOUBLE 1", "OUT 1", "RETURN 1")));
+    }
+
+    /** A function of 236 bytes: an ADD of a WIDE below 16 has 13, its DOUBLE 4, its RETURN 11. */
+    private static String[] half() {
+        return Programs.join(Programs.lines("FUNCTION 2"), Programs.times(17, "ADD 0 0 0"),
+                Programs.lines("DOUBLE 0", "RETURN 0"));
+    }
+
     /**
-     * Two functions of 236 bytes (an ADD of a WIDE below 16 has 13, its DOUBLE 4, its RETURN 11), then a third one:
-     * 10 for the DOUBLEs, 9 for the RETURN, whose first LDA is left out, 2 for the LDA of the first OUT, and 1 an OUT.
+     * In the third function: 10 for the DOUBLEs, 9 for the RETURN, whose first LDA is left out, 2 for the LDA of the
+     * first OUT, and 1 an OUT.
      */
     private static String[] ofBytes(int bytes) {
-        String[] half = Programs.join(Programs.lines("FUNCTION 2"), Programs.times(17, "ADD 0 0 0"),
-                Programs.lines("DOUBLE 0", "RETURN 0"));
-        return Programs.join(half, half, Programs.lines("FUNCTION 1"), Programs.times(5, "DOUBLE 0"),
+        return Programs.join(half(), half(), Programs.lines("FUNCTION 1"), Programs.times(5, "DOUBLE 0"),
                 Programs.times(bytes - 2 * 236 - 10 - 9 - 2, "OUT 0"), Programs.lines("RETURN 0"));
     }
 
@@ -127,7 +138,8 @@ public final class CompileTest {
     private static void longest() {
         String[] lines = Programs.lines("FUNCTION 8 8 8 2");
         for (int f = 0; f < 2; f++) {
-            lines = Programs.join(lines, Programs.times(23, "CALL 3 3 3"), Programs.lines("RETURN 3", "FUNCTION 8 8 8 2"));
+            lines = Programs.join(lines, Programs.times(23, "CALL 3 3 3"),
+                    Programs.lines("RETURN 3", "FUNCTION 8 8 8 2"));
         }
         lines = Programs.join(lines, Programs.times(10, "CALL 3 3 3"), Programs.lines("RETURN 3",
                 "FUNCTION 2", "RETURN 0"));

@@ -49,8 +49,8 @@ public final class LongsTest {
     private static void oneMakesAnotherLong() {
         for (int outs = 1; outs <= 10; outs++) {
             String[] lines = Programs.join(Programs.lines("FUNCTION 1 2", "ZERO 0 " + (11 + outs), "ZERO 0 23"),
-                    Programs.times(9, "ADD 1 1 1"), Programs.times(outs, "OUT 0"), Programs.times(12 - outs, "ADD 1 1 1"),
-                    Programs.lines("GOTO 0"));
+                    Programs.times(9, "ADD 1 1 1"), Programs.times(outs, "OUT 0"),
+                    Programs.times(12 - outs, "ADD 1 1 1"), Programs.lines("GOTO 0"));
             FrameBackEnd x = Programs.compiled(lines);
             int between = 4 + 9 * 13 + 2 + outs;
             DUE.is("longs() " + outs, x.longs(), between + 3 > 127 ? 2 : 1);
@@ -58,8 +58,8 @@ public final class LongsTest {
     }
 
     private static void longsOfAllFunctions() {
-        String[] one = Programs.join(Programs.lines("FUNCTION 2", "ZERO 0 12", "ZERO 0 0"), Programs.times(10, "ADD 0 0 0"),
-                Programs.lines("BELOW 0 0 0", "GOTO 0"));
+        String[] one = Programs.join(Programs.lines("FUNCTION 2", "ZERO 0 12", "ZERO 0 0"),
+                Programs.times(10, "ADD 0 0 0"), Programs.lines("BELOW 0 0 0", "GOTO 0"));
         FrameBackEnd x = Programs.compiled(Programs.join(one, one, one));
         DUE.is("longs()", x.longs(), 6);
         x.compile();

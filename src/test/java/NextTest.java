@@ -31,8 +31,8 @@ public final class NextTest {
         for (int f = 1; f < 5; f++) {
             lines = Programs.join(lines, Programs.lines("FUNCTION 1", "CALL " + (f + 1) + " 0 0", "RETURN 0"));
         }
-        FrameBackEnd x = Programs.started(Programs.join(lines, Programs.lines("FUNCTION 1"), Programs.times(23, "OUT 0"),
-                Programs.lines("RETURN 0")));
+        FrameBackEnd x = Programs.started(Programs.join(lines, Programs.lines("FUNCTION 1"),
+                Programs.times(23, "OUT 0"), Programs.lines("RETURN 0")));
         x.run(5);
         DUE.is("first of function 5", x.next(), 120);
         x.run(23);

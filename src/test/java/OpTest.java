@@ -18,6 +18,7 @@ public final class OpTest {
             allSorts(op);
         }
         constants();
+        sixVariables();
         limits();
         takesAndKeepsCode();
         DUE.end();
@@ -68,6 +69,12 @@ public final class OpTest {
         DUE.is("SET of a WIDE with 65535", x.op(0, 1, 65535, 0), 2);
         DUE.is("SET with 65536", x.op(0, 1, 65536, 0), -1);
         DUE.is("SET with -1", x.op(0, 1, -1, 0), -1);
+    }
+
+    private static void sixVariables() {
+        FrameBackEnd x = Programs.given("FUNCTION 1 1 1 1 1 1");
+        DUE.is("OUT 5", x.op(15, 5, 0, 0), 0);
+        DUE.is("OUT 6", x.op(15, 6, 0, 0), -1);
     }
 
     private static void limits() {

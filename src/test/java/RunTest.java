@@ -10,6 +10,7 @@ public final class RunTest {
         arithmetic();
         arrays();
         flow();
+        farthestBranches();
         parameters();
         resultOfNothing();
         DUE.end();
@@ -129,6 +130,20 @@ public final class RunTest {
                 below(0, left & 255, 1, right & 255);
             }
         }
+    }
+
+    /** 9 ADDs of a WIDE have 117 bytes, that of a BYTE 7, the LDA of the ZERO 2: with the branch that is 128. */
+    private static void farthestBranches() {
+        FrameBackEnd back = Programs.started(Programs.join(Programs.lines("FUNCTION 1 2"),
+                Programs.times(9, "ADD 1 1 1"), Programs.lines("ADD 0 0 0", "ZERO 0 0", "GOTO 11")));
+        DUE.is("128 back", back.code(127), 128);
+        DUE.is("run(11)", back.run(11), 11);
+        DUE.is("next()", back.next(), 0);
+        FrameBackEnd ahead = Programs.started(Programs.join(Programs.lines("FUNCTION 1 2", "ZERO 0 13"),
+                Programs.times(9, "ADD 1 1 1"), Programs.lines("ADD 0 0 0", "OUT 0", "DOUBLE 0", "GOTO 0")));
+        DUE.is("127 ahead", ahead.code(3), 127);
+        DUE.is("run(1)", ahead.run(1), 1);
+        DUE.is("next()", ahead.next(), 13);
     }
 
     private static void below(int a, int left, int b, int right) {

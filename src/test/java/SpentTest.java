@@ -3,9 +3,9 @@ public final class SpentTest {
     private static final Due DUE = new Due("SpentTest");
 
     public static void main(String[] args) {
-        FrameBackEnd x = Programs.given("FUNCTION 1 2 4", "SET 0 3", "SET 1 513", "ADD 1 1 0", "DOUBLE 1", "STORE 2 0 1",
-                "LOAD 1 2 0", "OUT 1", "ZERO 0 0", "BELOW 0 1 9", "CALL 1 0 0", "SET 0 4", "LOAD 0 2 0", "RETURN 0",
-                "FUNCTION 2", "RETURN 0");
+        FrameBackEnd x = Programs.given("FUNCTION 1 2 4", "SET 0 3", "SET 1 513", "ADD 1 1 0", "DOUBLE 1",
+                "STORE 2 0 1", "LOAD 1 2 0", "OUT 1", "ZERO 0 0", "BELOW 0 1 9", "CALL 1 0 0", "SET 0 4",
+                "LOAD 0 2 0", "RETURN 0", "FUNCTION 2", "RETURN 0");
         DUE.is("without code", x.spent(), 0);
         x.compile();
         DUE.is("without run", x.spent(), 0);

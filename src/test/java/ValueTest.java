@@ -3,8 +3,8 @@ public final class ValueTest {
     private static final Due DUE = new Due("ValueTest");
 
     public static void main(String[] args) {
-        FrameBackEnd x = Programs.given("FUNCTION 1 2 4", "SET 0 2", "SET 1 1000", "STORE 2 0 1", "CALL 1 1 0", "RETURN 0",
-                "FUNCTION 2 1", "SET 1 9", "RETURN 1");
+        FrameBackEnd x = Programs.given("FUNCTION 1 2 4", "SET 0 2", "SET 1 1000", "STORE 2 0 1", "CALL 1 1 0",
+                "RETURN 0", "FUNCTION 2 1", "SET 1 9", "RETURN 1");
         DUE.is("without code", x.value(0, 0), -1);
         x.compile();
         DUE.is("without run", x.value(0, 0), -1);
@@ -28,6 +28,7 @@ public final class ValueTest {
         DUE.is("back in function 0", x.value(0, 0), 9);
         x.run(1);
         DUE.is("at the end", x.value(0, 0), -1);
+        sixVariables();
         sharedPlaces();
         afterFault();
         DUE.end();
@@ -39,6 +40,13 @@ public final class ValueTest {
         for (int[] pair : wrong) {
             DUE.is("value(" + pair[0] + ", " + pair[1] + ")", x.value(pair[0], pair[1]), -1);
         }
+    }
+
+    private static void sixVariables() {
+        FrameBackEnd x = Programs.started("FUNCTION 8 8 8 8 8 8", "GOTO 0");
+        DUE.is("value(5, 7)", x.value(5, 7), 0);
+        DUE.is("value(5, 8)", x.value(5, 8), -1);
+        DUE.is("value(6, 0)", x.value(6, 0), -1);
     }
 
     /** Functions 1 and 2 are never active together: the one finds in its frame what the other left there. */
