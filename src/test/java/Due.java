@@ -1,6 +1,7 @@
 /** Counts and prints the answers that are not as due. */
 final class Due {
     private final String test;
+    private String sentence = "";
     private int wrong;
     private int asked;
 
@@ -8,11 +9,16 @@ final class Due {
         this.test = test;
     }
 
+    /** The answers that follow are due by this sentence of the document, which is printed with each that is wrong. */
+    void by(String sentence) {
+        this.sentence = " [" + sentence + "]";
+    }
+
     void is(String call, long got, long want) {
         asked++;
         if (got != want) {
             wrong++;
-            System.out.println(test + ": " + call + " answered " + got + ", due is " + want);
+            System.out.println(test + ": " + call + " answered " + got + ", due is " + want + sentence);
         }
     }
 
@@ -24,7 +30,7 @@ final class Due {
         asked++;
         if (!got.equals(want)) {
             wrong++;
-            System.out.println(test + ": " + call + "\n  answered " + got + "\n  due is   " + want);
+            System.out.println(test + ": " + call + "\n  answered " + got + "\n  due is   " + want + sentence);
         }
     }
 

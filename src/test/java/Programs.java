@@ -1,3 +1,5 @@
+import java.util.ArrayList;
+import java.util.Arrays;
 import java.util.List;
 
 /**
@@ -59,16 +61,45 @@ final class Programs {
 
     static String[] times(int n, String line) {
         String[] lines = new String[n];
-        java.util.Arrays.fill(lines, line);
+        Arrays.fill(lines, line);
         return lines;
     }
 
     static String[] join(String[]... parts) {
-        java.util.ArrayList<String> all = new java.util.ArrayList<>();
+        ArrayList<String> all = new ArrayList<>();
         for (String[] part : parts) {
             all.addAll(List.of(part));
         }
         return all.toArray(new String[0]);
+    }
+
+    /**
+     * Instructions of so many bytes (16 at least), for BYTE 0 at 0 and WIDE 1 at 1: an ADD of the WIDE has 13, its
+     * DOUBLE 4, an OUT of the BYTE 3, and 1 where A holds it. An ADD is the first, so it is of no meaning what A holds
+     * before them.
+     */
+    static String[] fill(int bytes) {
+        ArrayList<String> lines = new ArrayList<>();
+        int adds = bytes / 13;
+        int left = bytes % 13;
+        if (left == 1 || left == 2) {
+            adds--;
+            left += 13;
+        }
+        for (int k = 0; k < adds; k++) {
+            lines.add("ADD 1 1 1");
+        }
+        if (left > 0) {
+            lines.add("OUT 0");
+            left -= 3;
+        }
+        for (; left >= 4; left -= 4) {
+            lines.add("DOUBLE 1");
+        }
+        for (; left > 0; left--) {
+            lines.add("OUT 0");
+        }
+        return lines.toArray(new String[0]);
     }
 
     static String[] lines(String... lines) {
