@@ -93,6 +93,8 @@ public final class HeldEdgesTest {
         held(4, "STORE 4 0 3");
         held(4, "OUT 0", "STORE 4 0 3");
         held(4, "STORE 4 0 3", "STORE 4 1 3");
+        FrameBackEnd x = Programs.compiled("FUNCTION 3 1", "STORE 0 1 1", "OUT 1", "GOTO 0");
+        DUE.is("OUT behind STORE to an ARRAY at 0", sizeOf(x, 0, 1), 1);
     }
 
     private static void behindBranches() {

@@ -89,11 +89,21 @@ public final class RefusedCallsTest {
     }
 
     private static void full() {
-        List<Call> refused = new ArrayList<>(List.of(Call.function(), Call.variable(1), Call.variable(8)));
-        refused.addAll(List.of(Call.op(0, 0, 1, 0), Call.op(8, 0, 2, 0), Call.op(9, 2, 0, 0), Call.op(10, 0, 0, 0),
-                Call.op(13, 0, 0, 0), Call.op(14, 0, 0, 0)));
-        refused.addAll(wrongCounts());
-        changeNothing(State.full(), refused);
+        List<Call> variables = List.of(Call.variable(1), Call.variable(2), Call.variable(8));
+        changeNothing(State.full("six functions", "1 2 3", 3, 1, 1, 1, 1, 2), List.of(Call.function()));
+        changeNothing(State.full("six variables", "1 2 3 1 2 8", 3, 2), variables);
+        changeNothing(State.full("24 instructions", "1 2 3", 3, 24), rightInstructions());
+        changeNothing(State.full("60 instructions", "1 2 3", 24, 24, 12), rightInstructions());
+        List<Call> all = new ArrayList<>(rightInstructions());
+        all.addAll(variables);
+        all.add(Call.function());
+        all.addAll(wrongCounts());
+        changeNothing(State.full("all", "1 2 3 1 1 1", 3, 8, 8, 8, 9, 24), all);
+    }
+
+    private static List<Call> rightInstructions() {
+        return List.of(Call.op(0, 0, 1, 0), Call.op(2, 1, 0, 1), Call.op(8, 0, 2, 0), Call.op(9, 2, 0, 0),
+                Call.op(10, 0, 0, 0), Call.op(13, 0, 0, 0), Call.op(14, 0, 0, 0));
     }
 
     private static List<Call> wrongCounts() {

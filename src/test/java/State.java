@@ -59,15 +59,17 @@ record State(String name, String[] program, List<Call> calls) {
         return all;
     }
 
-    /** Six functions with 60 instructions, the latest of which is full too and has six variables. */
-    static State full() {
-        String[] lines = Programs.lines("FUNCTION 1 2 3 1 1 1", "OUT 1", "CALL 5 0 0", "RETURN 0");
-        for (int f = 1; f < 5; f++) {
-            lines = Programs.join(lines, Programs.lines("FUNCTION 1"), Programs.times(f == 4 ? 9 : 8, "GOTO 0"));
+    /** In the latest function, which has these variables; each function has so many instructions. */
+    static State full(String name, String variables, int... counts) {
+        int last = counts.length - 1;
+        String[] lines = Programs.join(Programs.lines("FUNCTION 1 2", "OUT 1", "CALL " + last + " 0 0", "RETURN 0"),
+                Programs.times(counts[0] - 3, "GOTO 0"));
+        for (int f = 1; f < last; f++) {
+            lines = Programs.join(lines, Programs.lines("FUNCTION 1"), Programs.times(counts[f], "GOTO 0"));
         }
-        lines = Programs.join(lines, Programs.lines("FUNCTION 1 2 3 1 1 1"), Programs.times(23, "OUT 1"),
-                Programs.lines("RETURN 1"));
-        return run("full", lines, 4);
+        lines = Programs.join(lines, Programs.lines("FUNCTION " + variables),
+                Programs.times(counts[last] - 1, "OUT 1"), Programs.lines("RETURN 1"));
+        return run(name, lines, 3);
     }
 
     private static State run(String name, String[] program, int n) {
