@@ -24,7 +24,8 @@ public final class ReadmeTest {
     private static final Path README = Path.of("README.md");
 
     private static final Pattern MADE = Pattern.compile("FrameBackEnd (\\w+) = new FrameBackEnd\\(\\);");
-    private static final Pattern CALL = Pattern.compile("(\\w+\\.(\\w+)\\([-\\d, ]*\\)); +// (-?\\d+|true|false)(:.*)?");
+    private static final Pattern CALL =
+            Pattern.compile("(\\w+\\.(\\w+)\\([-\\d, ]*\\)); +// (-?\\d+|true|false)(:.*)?");
     private static final Pattern SPAN = Pattern.compile("`([^`]+)`");
     private static final Pattern SHOWN = Pattern.compile("(\\w+)\\(([\\w, ]*)\\)");
 
@@ -226,7 +227,8 @@ public final class ReadmeTest {
         Path root = Files.createTempDirectory("readme");
         Folders.copy(root, "src");
         Folders.write(root, "Yours.java", "public final class Yours {\n"
-                + "    public static void main(String[] args) {\n" + String.join("\n", program.lines()) + "\n    }\n}\n");
+                + "    public static void main(String[] args) {\n" + String.join("\n", program.lines())
+                + "\n    }\n}\n");
         Process process = new ProcessBuilder("sh", "-e", "-c", command).directory(root.toFile())
                 .redirectErrorStream(true).redirectOutput(ProcessBuilder.Redirect.DISCARD).start();
         int code = process.waitFor();

@@ -105,7 +105,7 @@ public final class SamplesTest {
     }
 
     private static void sample(String name, String[] program, int state, int... output) {
-        DUE.by("it takes programs .., makes bytes of code for a small processor, and runs that code");
+        DUE.by("makes bytes of code for a small processor, and runs that code");
         Map<Integer, Integer> labels = labels(program);
         Machine machine = new Machine(Bytes.of(Programs.compiled(program)));
         int done = 0;
