@@ -11,6 +11,7 @@ import java.util.List;
  */
 public final class CiRunTest {
     private static final Due DUE = new Due("CiRunTest");
+    private static final int AT_ONCE = 4;
     private static final String PASSES = "";
     private static final String FAILS = "System.exit(1);";
     private static final String THROWS = "throw new IllegalStateException();";
@@ -27,12 +28,15 @@ public final class CiRunTest {
     }
 
     public static void main(String[] args) throws IOException, InterruptedException {
-        List<Started> all = new ArrayList<>();
-        for (Project project : projects()) {
-            all.add(start(project));
-        }
-        for (Started one : all) {
-            compare(one);
+        List<Project> projects = projects();
+        for (int first = 0; first < projects.size(); first += AT_ONCE) {
+            List<Started> some = new ArrayList<>();
+            for (Project project : projects.subList(first, Math.min(first + AT_ONCE, projects.size()))) {
+                some.add(start(project));
+            }
+            for (Started one : some) {
+                compare(one);
+            }
         }
         DUE.end();
     }

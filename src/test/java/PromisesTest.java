@@ -198,6 +198,7 @@ public final class PromisesTest {
         DUE.is("function -1", compile("FUNCTION 1", "CALL -1 0 0", "GOTO 0"), 3);
         DUE.by("4 if a function can come to call itself, in one or more steps");
         DUE.is("in one", compile("FUNCTION 1", "CALL 0 0 0", "GOTO 0"), 4);
+        DUE.is("in two", compile("FUNCTION 1", "CALL 1 0 0", "GOTO 0", "FUNCTION 1", "CALL 0 0 0", "GOTO 0"), 4);
         DUE.is("in three", compile("FUNCTION 1", "GOTO 0", "FUNCTION 1", "CALL 2 0 0", "GOTO 0",
                 "FUNCTION 1", "CALL 3 0 0", "GOTO 0", "FUNCTION 1", "CALL 1 0 0", "GOTO 0"), 4);
         DUE.by("5 if a frame ends above 120");

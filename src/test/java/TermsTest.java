@@ -191,14 +191,14 @@ public final class TermsTest {
 
     private static void arrays() {
         DUE.by("8 LOAD a t b, t an ARRAY, b a BYTE: a becomes byte b of t (from 0)");
-        FrameBackEnd x = done("FUNCTION 4 1 2 2 1", "SET 2 4660", "SET 3 65535", "SET 1 2", "STORE 0 1 2",
-                "LOAD 3 0 1", "SET 1 3", "LOAD 4 0 1");
+        FrameBackEnd x = done("FUNCTION 2 1 4 2 1", "SET 0 4660", "SET 3 65535", "SET 1 2", "STORE 2 1 0",
+                "LOAD 3 2 1", "SET 1 3", "LOAD 4 2 1");
         DUE.is("LOAD to a WIDE", wide(x, 3), 52);
         DUE.is("LOAD of another byte", x.value(4, 0), 0);
         DUE.by("9 STORE t b c, likewise: byte b of t becomes the low byte of c");
         int[] stored = {0, 0, 52, 0};
         for (int i = 0; i < stored.length; i++) {
-            DUE.is("byte " + i, x.value(0, i), stored[i]);
+            DUE.is("byte " + i, x.value(2, i), stored[i]);
         }
         DUE.by("both FAULT if b is not less than the size of t");
         for (String line : Programs.lines("LOAD 1 0 1", "STORE 0 1 1")) {
@@ -321,6 +321,9 @@ public final class TermsTest {
         FrameBackEnd x = Programs.compiled(Programs.join(Programs.lines("FUNCTION 8 8 2"),
                 Programs.times(16, "ADD 2 2 2"), Programs.lines("GOTO 17", "GOTO 16")));
         code("JMP to 16 * 19 + 3", x, 304, 151, 307 - 256, 1, 151, 304 - 256, 1, -1);
+        x.start();
+        x.run(17);
+        DUE.is("next() behind that JMP", x.next(), 17);
     }
 
     private static void parts() {
@@ -365,6 +368,7 @@ public final class TermsTest {
     private static void leftOutAtTargets() {
         DUE.by("HELD is nothing at the beginning of a function, at each TARGET");
         DUE.is("OUT 0 at a target", sizeOf(1, "FUNCTION 1 1", "OUT 0", "OUT 0", "GOTO 1"), 3);
+        DUE.is("OUT 0 at a target of instruction 0", sizeOf(2, "FUNCTION 1", "GOTO 2", "OUT 0", "OUT 0", "GOTO 0"), 3);
         DUE.is("OUT 0 behind a target", sizeOf(2, "FUNCTION 1 1", "OUT 0", "OUT 0", "OUT 0", "GOTO 1"), 1);
         FrameBackEnd x = Programs.compiled("FUNCTION 1", "OUT 0", "GOTO 0", "FUNCTION 1", "OUT 0", "GOTO 0");
         DUE.is("OUT 0 at the beginning of function 1", x.address(1, 1) - x.address(1, 0), 3);
@@ -377,19 +381,44 @@ public final class TermsTest {
                 filling, Programs.lines("RETURN 0")));
     }
 
+    /** So many bytes from 4 on, then a BELOW back to them: LDA, CMP and BCC, or BCS and JMP. */
+    private static FrameBackEnd back(int bytes, boolean goes) {
+        String[] filling = Programs.fill(bytes);
+        int branch = 1 + filling.length;
+        FrameBackEnd x = Programs.compiled(Programs.join(Programs.lines("FUNCTION 1 2 1 1", "SET 2 1"), filling,
+                Programs.lines(goes ? "BELOW 3 2 1" : "BELOW 2 3 1", "RETURN 0")));
+        goesTo(x, branch, goes ? 1 : branch + 1);
+        return x;
+    }
+
+    private static void goesTo(FrameBackEnd x, int branch, int next) {
+        x.start();
+        x.run(branch + 1);
+        DUE.is("next() behind the branch, which is instruction " + branch, x.next(), next);
+    }
+
     private static void longBranches() {
         DUE.by("A BEQ or BCC to l is LONG if l lies further than a branch reaches");
         FrameBackEnd near = over(127);
         DUE.is("longs() over 127 bytes", near.longs(), 0);
         code("BEQ", near, 2, 118, 127);
+        goesTo(near, 0, Programs.fill(127).length + 1);
         FrameBackEnd far = over(128);
         DUE.is("longs() over 128 bytes", far.longs(), 1);
+        goesTo(far, 0, Programs.fill(128).length + 1);
         DUE.by("then BNE (BCS) behind the JMP, and JMP l stand in its place");
         code("BNE, JMP", far, 2, 126, 3, 151, 135, 0);
         DUE.is("address(0, 1)", far.address(0, 1), 7);
-        FrameBackEnd back = Programs.compiled(Programs.join(Programs.lines("FUNCTION 1 2"), Programs.fill(130),
-                Programs.lines("BELOW 0 0 0", "RETURN 0")));
-        code("BCS, JMP", back, 134, 142, 3, 151, 0, 0);
+        boolean[] both = {true, false};
+        for (boolean goes : both) {
+            FrameBackEnd reached = back(122, goes);
+            DUE.is("longs() 128 back", reached.longs(), 0);
+            code("BCC", reached, 130, 134, 128);
+            FrameBackEnd tooFar = back(123, goes);
+            DUE.is("longs() 129 back", tooFar.longs(), 1);
+            code("BCS, JMP", tooFar, 131, 142, 3, 151, 4, 0);
+            DUE.is("longs() made twice", tooFar.compile() + tooFar.longs(), 1);
+        }
         DUE.by("As few as possible are long.");
         FrameBackEnd x = Programs.compiled(Programs.join(Programs.lines("FUNCTION 1 2", "ZERO 0 2", "ZERO 0 12"),
                 Programs.times(10, "ADD 1 1 1"), Programs.lines("RETURN 0")));
